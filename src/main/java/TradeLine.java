@@ -30,8 +30,8 @@ public final class TradeLine {
     // What goes as it is kept, and the next number of a FILL, share one int: a FILL's is 2 at least.
     private static final int NOTHING = 0, AS_KEPT = 1;
 
-    // Far above what 512 calls can put on their way.
-    private static final int MOST_ON_WAY = 1 << 20;
+    // Far above what 512 calls can send and put on their way.
+    private static final int MOST_KEPT = 1 << 20, MOST_ON_WAY = 1 << 20;
 
     private final Party trader = new Party();
     private final Party house = new Party();
@@ -442,6 +442,9 @@ public final class TradeLine {
     private void send(int side, int kind, int[] body) {
         Party sender = party(side);
         int number = sender.kept.size() + 1;
+        if (number > MOST_KEPT) {
+            return;
+        }
         sender.kept.add(new Message(kind, number, now, body));
         sender.lastSent = now;
         if (up) {

@@ -21,6 +21,7 @@ public final class LineTest {
         promise4WentAgain();
         promise4Test();
         promise5();
+        promise5OfOne();
         promise6();
         promise6Beats();
         promise6Quiet();
@@ -369,7 +370,19 @@ public final class LineTest {
         line.connect(false);
         line.come(TRADER, 1);
         line.order(true, 1, 1);
+        line.come(HOUSE, 1);
+        line.quote(0, true, 1, 1);
+        line.pass(10);
+        CHECK.is("something is on its way to both", Math.min(line.onWay(TRADER), line.onWay(HOUSE)) > 0, true);
         CHECK.refuses("garble for side 2", line, Check.OUT_OF_BOUNDS, () -> line.garble(2, 0));
+        CHECK.refuses("garble for side -1", line, Check.OUT_OF_BOUNDS, () -> line.garble(-1, 0));
+    }
+
+    private static void promise5OfOne() {
+        TradeLine line = new TradeLine();
+        line.connect(false);
+        line.come(TRADER, 1);
+        line.order(true, 1, 1);
         CHECK.refuses("garble at -1", line, Check.OUT_OF_BOUNDS, () -> line.garble(HOUSE, -1));
         CHECK.refuses("garble behind the last", line, Check.OUT_OF_BOUNDS, () -> line.garble(HOUSE, 2));
         CHECK.is("garble the second", line.garble(HOUSE, 1), 2);
