@@ -941,7 +941,7 @@ public final class TradeLine {
         int count;
 
         void hold(int number, int next) {
-            if (number < 0) {
+            if (number < 0 || number > MOST_KEPT) {
                 return;
             }
             if (number >= nexts.length) {

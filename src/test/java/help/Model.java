@@ -587,6 +587,10 @@ final class Model {
         return before;
     }
 
+    boolean isBusted(int execution) {
+        return busted.contains(execution);
+    }
+
     int executions() {
         return trades.size();
     }
