@@ -9,6 +9,7 @@ public final class CallEdgesTest {
 
     public static void main(String[] args) {
         newObject();
+        manyCalls();
         connectAndCut();
         come();
         garble();
@@ -21,6 +22,7 @@ public final class CallEdgesTest {
         cancel();
         replace();
         ordersOfQuestions();
+        stateOf();
         isLeftOut();
         quote();
         bust();
@@ -46,6 +48,29 @@ public final class CallEdgesTest {
             "agree() = true",
             "left(TRADER, 0)" + INDEX,
             "total(TRADER, 0, buy, 1) = 0");
+    }
+
+    private static void manyCalls() {
+        EDGES.says("An object is used for at most 512 calls after it has been made; what later calls answer is free.");
+        EDGES.run("the 512th call is answered as the first one",
+            "510 times endDay()",
+            "endDay() = 511",
+            "total(HOUSE, 511, buy, 0) = 0");
+        EDGES.run("509 calls, refused ones among them",
+            "connect(false)",
+            "come(TRADER, 1) = 1",
+            "40 times order(buy, 9, 9)",
+            "5 times replace(0, 9, 9)",
+            "40 times replace(0, 9, 9) = IllegalStateException",
+            "onWay(HOUSE) = 46",
+            "4 times come(HOUSE, 100)",
+            "100 times correct(0, 9) = IndexOutOfBoundsException",
+            "sent(HOUSE) = 46",
+            "4 times come(TRADER, 100)",
+            "300 times quote(0, buy, 9, 1)",
+            "executions() = 100",
+            "10 times pass(1)",
+            "sent(TRADER) = 47");
     }
 
     private static void connectAndCut() {
@@ -86,15 +111,10 @@ public final class CallEdgesTest {
 
     private static void come() {
         EDGES.says("1 to 100: how many, or all that are on their way when it begins, if they are fewer");
-        EDGES.run("0, 1, 100 and 101",
+        EDGES.run("1, fewer than there are, more than there are, none",
             "on()",
             "40 times order(buy, 50, 9)",
             "5 times replace(0, 50, 9)",
-            "come(HOUSE, 0)" + ARGUMENT,
-            "come(HOUSE, -1)" + ARGUMENT,
-            "come(HOUSE, 101)" + ARGUMENT,
-            "come(HOUSE, " + LEAST + ")" + ARGUMENT,
-            "come(HOUSE, " + GREATEST + ")" + ARGUMENT,
             "come(TRADER, 100) = 0",
             "come(HOUSE, 1) = 1",
             "onWay(HOUSE) = 44",
@@ -126,6 +146,18 @@ public final class CallEdgesTest {
             "onWay(HOUSE) = 1",
             "expected(HOUSE) = 102",
             "come(HOUSE, 100) = 1");
+        EDGES.says("Throws `IllegalArgumentException` if many is out of range");
+        EDGES.run("0, 1, 100 and 101",
+            "on()",
+            "order(buy, 50, 9) = 0",
+            "come(HOUSE, 0)" + ARGUMENT,
+            "come(HOUSE, -1)" + ARGUMENT,
+            "come(HOUSE, 101)" + ARGUMENT,
+            "come(HOUSE, " + LEAST + ")" + ARGUMENT,
+            "come(HOUSE, " + GREATEST + ")" + ARGUMENT,
+            "come(TRADER, 101)" + ARGUMENT,
+            "come(TRADER, 1) = 0",
+            "come(HOUSE, 100) = 1");
         EDGES.says("Returns how many come, lost ones included.");
         EDGES.run("all lost",
             "connect(false)",
@@ -156,6 +188,7 @@ public final class CallEdgesTest {
             "garble(HOUSE, 2)" + INDEX,
             "garble(HOUSE, " + LEAST + ")" + INDEX,
             "garble(HOUSE, " + GREATEST + ")" + INDEX);
+        EDGES.says("Returns its number.");
         EDGES.run("one behind the other, twice the same",
             "on()",
             "3 times order(buy, 9, 9)",
@@ -170,7 +203,8 @@ public final class CallEdgesTest {
     }
 
     private static void pass() {
-        EDGES.says("Throws `IllegalArgumentException` if ticks is out of range");
+        EDGES.says("- `ticks`: 1 to 50 Returns how many messages the sides send in them. Throws `IllegalArgumentException` if ticks"
+            + " is out of range");
         EDGES.run("0, 1, 50 and 51",
             "pass(0)" + ARGUMENT,
             "pass(-1)" + ARGUMENT,
@@ -366,7 +400,8 @@ public final class CallEdgesTest {
     }
 
     private static void places() {
-        EDGES.says("Throws `IndexOutOfBoundsException` if there is no such side, message or field");
+        EDGES.says("- `place`: from 0 Returns the tag. Throws `IndexOutOfBoundsException` if there is no such side, message or field");
+        EDGES.says("- `place`: from 0 Returns the value. Throws `IndexOutOfBoundsException` if there is no such side, message or field");
         EDGES.run("-1, 0, the last and one more",
             "on()",
             "order(buy, 7, 8) = 0",
@@ -394,7 +429,8 @@ public final class CallEdgesTest {
     }
 
     private static void order() {
-        EDGES.says("Throws `IllegalArgumentException` if price or size is out of range");
+        EDGES.says("- `price`: 1 to 100 - `size`: 1 to 100 Returns the number of the order. Throws `IllegalArgumentException` if price"
+            + " or size is out of range");
         EDGES.run("prices and sizes of 0, 1, 100 and 101",
             "on()",
             "order(buy, 0, 1)" + ARGUMENT,
@@ -505,7 +541,7 @@ public final class CallEdgesTest {
     }
 
     private static void replace() {
-        EDGES.says("Lets the trader send a REPLACE.");
+        EDGES.says("Lets the trader send a REPLACE. - `order`: its number - `price`: 1 to 100 - `size`: 1 to 100");
         EDGES.run("prices and sizes of 0, 1, 100 and 101",
             "on()",
             "order(buy, 50, 50) = 0",
@@ -542,6 +578,41 @@ public final class CallEdgesTest {
                 name + LEAST + ")" + INDEX,
                 name + GREATEST + ")" + INDEX);
         }
+    }
+
+    private static void stateOf() {
+        EDGES.says("Returns PENDING, LIVE or OVER.");
+        EDGES.run("one behind the other",
+            "on()",
+            "order(buy, 9, 1) = 0",
+            "stateOf(0) = PENDING",
+            "come(HOUSE, 1) = 1",
+            "stateOf(0) = PENDING",
+            "come(TRADER, 1) = 1",
+            "stateOf(0) = LIVE",
+            "quote(0, buy, 9, 1) = 1",
+            "stateOf(0) = LIVE",
+            "come(TRADER, 1) = 1",
+            "stateOf(0) = OVER");
+        EDGES.says("Returns 0 to 5.");
+        EDGES.run("0, 1, 4, 5 and no more, then back to 0",
+            "on()",
+            "order(buy, 9, 9) = 0",
+            "underWay(0) = 0",
+            "cancel(0) = 1",
+            "underWay(0) = 1",
+            "3 times replace(0, 9, 9)",
+            "underWay(0) = 4",
+            "cancel(0) = 5",
+            "underWay(0) = 5",
+            "cancel(0)" + STATE,
+            "underWay(0) = 5",
+            "come(HOUSE, 100) = 6",
+            "underWay(0) = 5",
+            "come(TRADER, 5) = 5",
+            "underWay(0) = 1",
+            "come(TRADER, 1) = 1",
+            "underWay(0) = 0");
     }
 
     private static void isLeftOut() {
@@ -587,12 +658,22 @@ public final class CallEdgesTest {
     }
 
     private static void quote() {
-        EDGES.says("Tells a quote of a venue, in place of the one before.");
-        EDGES.run("venues, prices and sizes, the last in range and the first out of it",
+        EDGES.says("Throws `IndexOutOfBoundsException` if there is no such venue");
+        EDGES.run("-1, 0, 2 and 3",
             "quote(-1, buy, 50, 50)" + INDEX,
             "quote(3, buy, 50, 50)" + INDEX,
             "quote(" + LEAST + ", buy, 50, 50)" + INDEX,
             "quote(" + GREATEST + ", sell, 50, 50)" + INDEX,
+            "quote(0, buy, 50, 50) = 0",
+            "quote(2, sell, 50, 50) = 0",
+            "quoted(-1, buy)" + INDEX,
+            "quoted(0, buy) = 50",
+            "quoted(2, sell) = 50",
+            "quoted(3, sell)" + INDEX,
+            "quoted(" + LEAST + ", buy)" + INDEX,
+            "quoted(" + GREATEST + ", sell)" + INDEX);
+        EDGES.says("- `price`: 1 to 100 - `size`: 0 to 200 Returns how many executions are made by that.");
+        EDGES.run("prices and sizes, the last in range and the first out of it",
             "quote(0, buy, 0, 50)" + ARGUMENT,
             "quote(0, buy, 101, 50)" + ARGUMENT,
             "quote(0, buy, " + LEAST + ", 50)" + ARGUMENT,
@@ -610,6 +691,7 @@ public final class CallEdgesTest {
             "quoted(2, sell) = 1",
             "quote(2, sell, 100, 0) = 0",
             "quoted(2, sell) = 0");
+        EDGES.says("Tells a quote of a venue, in place of the one before.");
         EDGES.run("the one before counts no more",
             "on()",
             "quote(0, buy, 9, 200) = 0",
@@ -644,17 +726,30 @@ public final class CallEdgesTest {
     }
 
     private static void bust() {
-        EDGES.says("Returns what is done of its order then, for the house.");
-        EDGES.run("of none, of one, and again",
+        EDGES.says("Throws `IndexOutOfBoundsException` if there is no such execution");
+        EDGES.run("-1, 0 and the one behind the last, of none and of one",
             "on()",
             "bust(0)" + INDEX,
+            "correct(0, 1)" + INDEX,
             "quote(0, buy, 9, 4) = 0",
-            "2 times order(buy, 9, 9)",
+            "order(buy, 9, 9) = 0",
             "settle()",
             "bust(-1)" + INDEX,
             "bust(1)" + INDEX,
             "bust(" + LEAST + ")" + INDEX,
             "bust(" + GREATEST + ")" + INDEX,
+            "correct(-1, 1)" + INDEX,
+            "correct(1, 1)" + INDEX,
+            "correct(" + LEAST + ", 1)" + INDEX,
+            "correct(" + GREATEST + ", 1)" + INDEX,
+            "correct(0, 1) = 9",
+            "bust(0) = 0");
+        EDGES.says("Returns what is done of its order then, for the house.");
+        EDGES.run("of two orders, one behind the other",
+            "on()",
+            "quote(0, buy, 9, 4) = 0",
+            "2 times order(buy, 9, 9)",
+            "settle()",
             "quote(0, buy, 9, 5) = 1",
             "quote(0, buy, 9, 1) = 1",
             "bust(0) = 5",
@@ -678,22 +773,30 @@ public final class CallEdgesTest {
     }
 
     private static void correct() {
-        EDGES.says("Gives an execution another price, perhaps the same one.");
-        EDGES.run("prices of 0, 1, 100 and 101, and the same one",
+        EDGES.says("Throws `IllegalArgumentException` if price is out of range");
+        EDGES.run("0, 1, 100 and 101",
             "on()",
-            "correct(0, 1)" + INDEX,
             "quote(0, buy, 9, 4) = 0",
             "order(buy, 9, 9) = 0",
             "settle()",
-            "correct(-1, 1)" + INDEX,
-            "correct(1, 1)" + INDEX,
-            "correct(" + GREATEST + ", 1)" + INDEX,
             "correct(0, 0)" + ARGUMENT,
             "correct(0, 101)" + ARGUMENT,
+            "correct(0, -1)" + ARGUMENT,
             "correct(0, " + LEAST + ")" + ARGUMENT,
+            "correct(0, " + GREATEST + ")" + ARGUMENT,
+            "total(HOUSE, 0, buy, 1) = 36",
+            "sent(HOUSE) = 3",
             "correct(0, 1) = 9",
-            "correct(0, 100) = 1",
-            "correct(0, 100) = 100",
+            "correct(0, 100) = 1");
+        EDGES.says("Gives an execution another price, perhaps the same one.");
+        EDGES.run("the same one is reported too",
+            "on()",
+            "quote(0, buy, 9, 4) = 0",
+            "order(buy, 9, 9) = 0",
+            "settle()",
+            "correct(0, 9) = 9",
+            "correct(0, 10) = 9",
+            "correct(0, 10) = 10",
             "sent(HOUSE) = 6");
         EDGES.says("Returns the price before.");
         EDGES.run("that of the house, also when the trader does not know it yet",
@@ -729,7 +832,7 @@ public final class CallEdgesTest {
             "pass(50) = 0",
             "97 times endDay()",
             "endDay() = 101");
-        EDGES.says("Returns how many orders the trader has sent.");
+        EDGES.says("Returns how many orders the trader has sent. Returns 0 to 40.");
         EDGES.run("0 to 40, whether they have come or not",
             "orders() = 0",
             "on()",
@@ -768,6 +871,8 @@ public final class CallEdgesTest {
             "settle()",
             "left(TRADER, 0) = -1",
             "left(HOUSE, 0) = 6");
+        EDGES.says("Returns what is done; NONE if the HOUSE does not have it.");
+        EDGES.says("Returns what is out; NONE if the HOUSE does not have it.");
         EDGES.run("NONE for the HOUSE, not for the TRADER",
             "on()",
             "order(buy, 9, 2) = 0",
@@ -779,6 +884,7 @@ public final class CallEdgesTest {
             "doneByLog(TRADER, 0) = 0",
             "out(HOUSE, 0) = NONE",
             "out(TRADER, 0) = 0");
+        EDGES.says("Throws `IndexOutOfBoundsException` if there is no such side or order");
         for (String name : new String[] {"left(", "done(", "doneByLog(", "out("}) {
             EDGES.run("sides of " + name + "side, order)",
                 "on()",
@@ -813,6 +919,7 @@ public final class CallEdgesTest {
 
     private static void venues() {
         EDGES.says("Returns how many venues have executed something of an order, for the house, busted executions included.");
+        EDGES.says("Returns 0 to 3.");
         EDGES.run("0 to 3, one of them twice, all busted",
             "on()",
             "order(buy, 9, 9) = 0",
@@ -843,8 +950,8 @@ public final class CallEdgesTest {
     }
 
     private static void total() {
-        EDGES.says("Returns what was bought or sold by the executions of a day that a side knows, busted ones left aside.");
-        EDGES.run("days of -1, 0, now and one more; 0 and 1 and what is around them",
+        EDGES.says("- `day`: 0 to the day of now");
+        EDGES.run("-1, 0, now and one more",
             "total(TRADER, -1, buy, 0)" + INDEX,
             "total(TRADER, 0, buy, 0) = 0",
             "total(TRADER, 1, buy, 0)" + INDEX,
@@ -853,11 +960,18 @@ public final class CallEdgesTest {
             "total(HOUSE, 1, sell, 1) = 0",
             "total(HOUSE, 2, sell, 1)" + INDEX,
             "total(HOUSE, " + LEAST + ", sell, 1)" + INDEX,
-            "total(HOUSE, " + GREATEST + ", sell, 1)" + INDEX,
+            "total(HOUSE, " + GREATEST + ", sell, 1)" + INDEX);
+        EDGES.says("- `what`: 0 for the sizes, 1 for the sizes times the prices Returns the sum.");
+        EDGES.says("Throws `IllegalArgumentException` if what is out of range");
+        EDGES.run("-1, 0, 1 and 2",
+            "endDay() = 1",
+            "total(HOUSE, 1, sell, 0) = 0",
+            "total(HOUSE, 1, sell, 1) = 0",
             "total(HOUSE, 1, sell, -1)" + ARGUMENT,
             "total(HOUSE, 1, sell, 2)" + ARGUMENT,
             "total(HOUSE, 1, sell, " + LEAST + ")" + ARGUMENT,
             "total(HOUSE, 1, sell, " + GREATEST + ")" + ARGUMENT);
+        EDGES.says("Returns what was bought or sold by the executions of a day that a side knows, busted ones left aside.");
         EDGES.run("bought and sold, sizes and sizes times prices, one, two and one busted",
             "on()",
             "order(buy, 50, 50) = 0",
