@@ -278,7 +278,7 @@ public final class CallEdgesTest {
             "isUp() = false",
             "on()",
             "isUp() = true");
-        EDGES.says("Returns how many messages are on their way to a side.");
+        EDGES.says("Returns how many messages are on their way to a side. - `side`: TRADER or HOUSE Returns how many.");
         EDGES.run("none, one and two, garbled ones too",
             "onWay(HOUSE) = 0",
             "on()",
@@ -291,7 +291,7 @@ public final class CallEdgesTest {
             "onWay(HOUSE) = 2",
             "come(HOUSE, 1) = 1",
             "onWay(HOUSE) = 1");
-        EDGES.says("Returns the number that a side expects.");
+        EDGES.says("Returns the number that a side expects. - `side`: TRADER or HOUSE Returns the number.");
         EDGES.run("1, 2 and 3, each side its own",
             "expected(HOUSE) = 1",
             "on()",
@@ -301,7 +301,7 @@ public final class CallEdgesTest {
             "come(HOUSE, 1) = 1",
             "expected(HOUSE) = 3",
             "expected(TRADER) = 2");
-        EDGES.says("Returns how many messages a side holds back.");
+        EDGES.says("Returns how many messages a side holds back. - `side`: TRADER or HOUSE Returns how many.");
         EDGES.run("none, one and two, each side its own",
             "held(TRADER) = 0",
             "on()",
@@ -346,7 +346,7 @@ public final class CallEdgesTest {
             "valueAt(2, 1, 0)" + INDEX,
             "total(-1, 0, buy, 0)" + INDEX,
             "total(2, 0, buy, 0)" + INDEX);
-        EDGES.says("Returns the number; 0 if there is none.");
+        EDGES.says("Returns the number that a side gave last. - `side`: TRADER or HOUSE Returns the number; 0 if there is none.");
         EDGES.run("none, one, two",
             "sent(TRADER) = 0",
             "connect(false)",
@@ -358,7 +358,8 @@ public final class CallEdgesTest {
     }
 
     private static void numbers() {
-        EDGES.says("1 to the number that the side gave last");
+        EDGES.says("- `side`: TRADER or HOUSE: the one that sent it - `number`: 1 to the number that the side gave last");
+        EDGES.says("Throws `IndexOutOfBoundsException` if there is no such side or message");
         EDGES.run("0, 1, the last and one more, of each side",
             "on()",
             "2 times order(buy, 9, 9)",
@@ -383,6 +384,7 @@ public final class CallEdgesTest {
             "valueAt(HOUSE, 2, 0)" + INDEX,
             "valueAt(HOUSE, " + LEAST + ", 0)" + INDEX,
             "tagAt(HOUSE, " + GREATEST + ", 0)" + INDEX);
+        EDGES.says("Returns how many fields a message has.");
         EDGES.says("Returns how many, the sum included.");
         EDGES.run("the fewest, and those of each kind",
             "on()",
@@ -400,6 +402,8 @@ public final class CallEdgesTest {
     }
 
     private static void places() {
+        EDGES.says("Returns the tag of a field.");
+        EDGES.says("Returns the value of a field.");
         EDGES.says("- `place`: from 0 Returns the tag. Throws `IndexOutOfBoundsException` if there is no such side, message or field");
         EDGES.says("- `place`: from 0 Returns the value. Throws `IndexOutOfBoundsException` if there is no such side, message or field");
         EDGES.run("-1, 0, the last and one more",
@@ -542,6 +546,7 @@ public final class CallEdgesTest {
 
     private static void replace() {
         EDGES.says("Lets the trader send a REPLACE. - `order`: its number - `price`: 1 to 100 - `size`: 1 to 100");
+        EDGES.says("Throws `IllegalArgumentException` if price or size is out of range");
         EDGES.run("prices and sizes of 0, 1, 100 and 101",
             "on()",
             "order(buy, 50, 50) = 0",
@@ -564,7 +569,8 @@ public final class CallEdgesTest {
     }
 
     private static void ordersOfQuestions() {
-        EDGES.says("Returns what an order is for the trader.");
+        EDGES.says("Throws `IndexOutOfBoundsException` if there is no such order");
+        EDGES.says("Throws `IndexOutOfBoundsException` if there is no such side or order");
         for (String name : new String[] {"stateOf(", "isLeftOut(", "underWay(", "venues(", "left(TRADER, ", "left(HOUSE, ",
             "done(TRADER, ", "done(HOUSE, ", "doneByLog(TRADER, ", "doneByLog(HOUSE, ", "out(TRADER, ", "out(HOUSE, "}) {
             EDGES.run("orders of " + name + "order): none, one, and those around it",
@@ -581,7 +587,7 @@ public final class CallEdgesTest {
     }
 
     private static void stateOf() {
-        EDGES.says("Returns PENDING, LIVE or OVER.");
+        EDGES.says("Returns what an order is for the trader. - `order`: its number Returns PENDING, LIVE or OVER.");
         EDGES.run("one behind the other",
             "on()",
             "order(buy, 9, 1) = 0",
@@ -594,7 +600,7 @@ public final class CallEdgesTest {
             "stateOf(0) = LIVE",
             "come(TRADER, 1) = 1",
             "stateOf(0) = OVER");
-        EDGES.says("Returns 0 to 5.");
+        EDGES.says("Returns how many requests are under way for an order. - `order`: its number Returns 0 to 5.");
         EDGES.run("0, 1, 4, 5 and no more, then back to 0",
             "on()",
             "order(buy, 9, 9) = 0",
@@ -616,7 +622,7 @@ public final class CallEdgesTest {
     }
 
     private static void isLeftOut() {
-        EDGES.says("Returns whether an order was left out of an answer, and is PENDING still.");
+        EDGES.says("Returns whether an order was left out of an answer, and is PENDING still. - `order`: its number Returns true if so.");
         EDGES.run("PENDING and not left out; left out and PENDING; another one",
             "on()",
             "order(buy, 9, 9) = 0",
@@ -673,6 +679,7 @@ public final class CallEdgesTest {
             "quoted(" + LEAST + ", buy)" + INDEX,
             "quoted(" + GREATEST + ", sell)" + INDEX);
         EDGES.says("- `price`: 1 to 100 - `size`: 0 to 200 Returns how many executions are made by that.");
+        EDGES.says("Throws `IllegalArgumentException` if price or size is out of range");
         EDGES.run("prices and sizes, the last in range and the first out of it",
             "quote(0, buy, 0, 50)" + ARGUMENT,
             "quote(0, buy, 101, 50)" + ARGUMENT,
@@ -744,7 +751,7 @@ public final class CallEdgesTest {
             "correct(" + GREATEST + ", 1)" + INDEX,
             "correct(0, 1) = 9",
             "bust(0) = 0");
-        EDGES.says("Returns what is done of its order then, for the house.");
+        EDGES.says("Busts an execution. - `execution`: its number Returns what is done of its order then, for the house.");
         EDGES.run("of two orders, one behind the other",
             "on()",
             "quote(0, buy, 9, 4) = 0",
@@ -773,6 +780,7 @@ public final class CallEdgesTest {
     }
 
     private static void correct() {
+        EDGES.says("- `price`: 1 to 100 Returns the price before.");
         EDGES.says("Throws `IllegalArgumentException` if price is out of range");
         EDGES.run("0, 1, 100 and 101",
             "on()",
@@ -822,7 +830,7 @@ public final class CallEdgesTest {
             "executions() = 1",
             "quote(0, buy, 9, 4) = 1",
             "executions() = 2");
-        EDGES.says("Returns the day then.");
+        EDGES.says("Ends the day. Returns the day then.");
         EDGES.run("one behind the other, the line up or down, reset or not",
             "endDay() = 1",
             "connect(reset)",

@@ -160,6 +160,8 @@ public final class ExceptionEdgesTest {
 
     /** Every call with every choice of edge values, in several states. */
     private static void sweeps() {
+        EDGES.says("IndexOutOfBoundsException: there is no such side, message, field, order, execution, venue or day."
+            + " IllegalArgumentException: another argument is out of its range. IllegalStateException: as the method tells.");
         String[] traded = {"on()", "order(buy, 50, 9)", "order(sell, 50, 9)", "order(buy, 60, 9)", "quote(0, buy, 55, 4)",
             "quote(1, sell, 55, 9)", "settle()", "quote(0, buy, 49, 2)", "bust(0)", "5 times replace(0, 50, 9)", "order(buy, 1, 1)"};
         EDGES.sweep("new");

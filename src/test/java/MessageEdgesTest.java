@@ -3,6 +3,7 @@ public final class MessageEdgesTest {
     private static final Edges EDGES = new Edges("MessageEdgesTest");
 
     public static void main(String[] args) {
+        sidesAndKinds();
         numbers();
         ontoTheLine();
         onceMore();
@@ -12,6 +13,44 @@ public final class MessageEdgesTest {
         fieldsOfTheHouse();
         sum();
         EDGES.end();
+    }
+
+    private static void sidesAndKinds() {
+        EDGES.says("There are two sides, the TRADER and the HOUSE.");
+        EDGES.run("and none ahead of them or behind",
+            "sent(-1) = IndexOutOfBoundsException",
+            "sent(TRADER) = 0",
+            "sent(HOUSE) = 0",
+            "sent(2) = IndexOutOfBoundsException");
+        EDGES.says("A message has a kind: LOGON, BEAT, TEST, RESEND with a first number, FILL with a next number, ORDER, CANCEL,"
+            + " REPLACE or REPORT. The first five are of the session.");
+        EDGES.run("one of each; those of the session, a FILL in place of each row of them, do not go again",
+            "on()",
+            "pass(15) = 4",
+            "order(buy, 9, 9) = 0",
+            "cancel(0) = 1",
+            "replace(0, 9, 9) = 2",
+            "valueAt(TRADER, 1, 0) = LOGON",
+            "valueAt(TRADER, 2, 0) = BEAT",
+            "valueAt(TRADER, 3, 0) = TEST",
+            "valueAt(TRADER, 4, 0) = ORDER",
+            "valueAt(TRADER, 5, 0) = CANCEL",
+            "valueAt(TRADER, 6, 0) = REPLACE",
+            "garble(HOUSE, 0) = 2",
+            "come(HOUSE, 5) = 5",
+            "valueAt(HOUSE, 4, 0) = RESEND",
+            "come(TRADER, 3) = 3",
+            "onWay(HOUSE) = 6",
+            "garble(HOUSE, 0) = 7",
+            "garble(HOUSE, 2) = 4",
+            "garble(HOUSE, 3) = 5",
+            "garble(HOUSE, 4) = 6",
+            "garble(HOUSE, 5) = 7",
+            "come(HOUSE, 2) = 2",
+            "expected(HOUSE) = 7",
+            "valueAt(HOUSE, 5, 0) = REPORT",
+            "come(HOUSE, 4) = 4",
+            "expected(HOUSE) = 7");
     }
 
     private static void numbers() {
@@ -172,7 +211,8 @@ public final class MessageEdgesTest {
     }
 
     private static void fieldsOfTheSession() {
-        EDGES.says("35 the kind; 34 the number; then, of a RESEND 7 and its first number;");
+        EDGES.says("The fields of a message that is kept are pairs of a tag and a value, in this order: 35 the kind; 34 the number;"
+            + " then, of a RESEND 7 and its first number;");
         EDGES.run("LOGON, BEAT and TEST have no fields between",
             "on()",
             "pass(15) = 4",

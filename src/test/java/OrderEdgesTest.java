@@ -4,6 +4,7 @@ public final class OrderEdgesTest {
 
     public static void main(String[] args) {
         atMostForty();
+        buysOrSells();
         books();
         pending();
         liveOrOver();
@@ -52,6 +53,23 @@ public final class OrderEdgesTest {
             "settle()",
             "order(buy, 9, 9) = IllegalStateException",
             "orders() = 40");
+    }
+
+    private static void buysOrSells() {
+        EDGES.says("An order buys or sells, with a price and a size.");
+        EDGES.run("both directions, a price that trades and one that does not, sizes above and below that of the quote",
+            "on()",
+            "quote(0, buy, 50, 3) = 0",
+            "quote(0, sell, 50, 9) = 0",
+            "order(buy, 49, 9) = 0",
+            "order(sell, 51, 9) = 1",
+            "order(buy, 50, 9) = 2",
+            "order(sell, 50, 8) = 3",
+            "settle()",
+            "book(HOUSE, 0) = 9 0 0 0",
+            "book(HOUSE, 1) = 9 0 0 0",
+            "book(HOUSE, 2) = 6 3 3 0",
+            "book(HOUSE, 3) = 0 8 8 0");
     }
 
     private static void books() {
@@ -245,8 +263,8 @@ public final class OrderEdgesTest {
     }
 
     private static void houseTakesIt() {
-        EDGES.says("an ORDER, if it has it not in its book: it is in its book then, with all of its size left; an ACK is reported;"
-            + " then it is routed;");
+        EDGES.says("The HOUSE works off: - an ORDER, if it has it not in its book: it is in its book then, with all of its size left;"
+            + " an ACK is reported; then it is routed;");
         EDGES.run("no quote to trade with: an ACK alone",
             "on()",
             "order(buy, 9, 10) = 0",

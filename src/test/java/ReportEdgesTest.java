@@ -64,7 +64,7 @@ public final class ReportEdgesTest {
     }
 
     private static void acknowledged() {
-        EDGES.says("ACK: it is acknowledged;");
+        EDGES.says("The TRADER works them off in its book: ACK: it is acknowledged;");
         EDGES.run("that order and no other",
             "on()",
             "2 times order(buy, 50, 20)",

@@ -11,6 +11,7 @@ public final class SessionEdgesTest {
         reset();
         expectsOneAtFirst();
         lost();
+        inThisOrder();
         logon();
         resendAtOnce();
         numberIsLess();
@@ -308,6 +309,35 @@ public final class SessionEdgesTest {
             "come(HOUSE, 1) = 1",
             "isOn(HOUSE) = true",
             "expected(HOUSE) = 2");
+    }
+
+    private static void inThisOrder() {
+        EDGES.says("Otherwise, in this order: - A LOGON makes the side on. A RESEND is answered at once.");
+        EDGES.run("a RESEND with a greater number is answered ahead of the RESEND that its number asks for",
+            "on()",
+            "2 times order(buy, 9, 9)",
+            "garble(HOUSE, 0) = 2",
+            "come(HOUSE, 2) = 2",
+            "garble(TRADER, 0) = 2",
+            "come(TRADER, 1) = 1",
+            "pass(5) = 0",
+            "order(buy, 9, 9) = 2",
+            "come(HOUSE, 1) = 1",
+            "come(TRADER, 1) = 1",
+            "last(TRADER) = 35=3 34=5 7=2 10=86",
+            "onWay(HOUSE) = 4",
+            "garble(HOUSE, 0) = 2",
+            "garble(HOUSE, 1) = 3",
+            "garble(HOUSE, 2) = 4",
+            "garble(HOUSE, 3) = 5");
+        EDGES.run("a LOGON with a greater number makes the side on ahead of all else, so that it asks at once",
+            "connect(false)",
+            "cut() = 2",
+            "connect(false)",
+            "come(HOUSE, 1) = 1",
+            "isOn(HOUSE) = true",
+            "held(HOUSE) = 1",
+            "last(HOUSE) = 35=3 34=3 7=1 10=83");
     }
 
     private static void logon() {
@@ -678,7 +708,24 @@ public final class SessionEdgesTest {
             "come(HOUSE, 1) = 1",
             "expected(HOUSE) = 6",
             "sent(HOUSE) = 6");
-        EDGES.says("others do nothing.");
+        EDGES.says("an ORDER, CANCEL, REPLACE and REPORT as told below; others do nothing.");
+        EDGES.run("an ORDER, a REPLACE, a CANCEL, and the REPORTs of them",
+            "on()",
+            "order(buy, 9, 9) = 0",
+            "replace(0, 8, 7) = 1",
+            "cancel(0) = 2",
+            "come(HOUSE, 3) = 3",
+            "valueAt(HOUSE, 2, 2) = ACK",
+            "valueAt(HOUSE, 3, 2) = REPLACED",
+            "valueAt(HOUSE, 4, 2) = OUT",
+            "book(TRADER, 0) = 0 0 0 0",
+            "come(TRADER, 1) = 1",
+            "book(TRADER, 0) = 9 0 0 0",
+            "come(TRADER, 1) = 1",
+            "book(TRADER, 0) = 7 0 0 0",
+            "come(TRADER, 1) = 1",
+            "book(TRADER, 0) = 0 0 0 7",
+            "underWay(0) = 0");
         EDGES.run("a LOGON, a BEAT and a RESEND",
             "connect(false)",
             "come(TRADER, 1) = 1",
