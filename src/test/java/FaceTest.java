@@ -1,17 +1,25 @@
+import java.io.IOException;
 import java.lang.reflect.Constructor;
 import java.lang.reflect.Field;
 import java.lang.reflect.Method;
 import java.lang.reflect.Modifier;
+import java.nio.file.Files;
+import java.nio.file.Path;
 import java.util.ArrayList;
 import java.util.Arrays;
 import java.util.HashSet;
 import java.util.List;
 import java.util.Set;
 import java.util.TreeSet;
+import java.util.regex.Matcher;
+import java.util.regex.Pattern;
 
 /** The public face is that of the document: every constant, the constructor, every method, and no more. */
 public final class FaceTest {
     private static final Check CHECK = new Check("FaceTest");
+
+    private static final String CONSTANT = "public static final int ";
+    private static final Pattern METHOD = Pattern.compile("public (\\w+) (\\w+)\\((.*?)\\)(?: throws (.*))?;");
 
     private static final String[] METHODS = {
         "void connect(boolean) IllegalStateException",
@@ -53,12 +61,38 @@ public final class FaceTest {
     private static final String CONSTANTS = "NONE=-1 TRADER=0 HOUSE=1 LOGON=0 BEAT=1 TEST=2 RESEND=3 FILL=4 ORDER=5 CANCEL=6"
         + " REPLACE=7 REPORT=8 ACK=0 FILLED=1 OUT=2 REPLACED=3 REFUSED=4 BUSTED=5 CORRECTED=6 PENDING=0 LIVE=1 OVER=2";
 
-    public static void main(String[] args) throws IllegalAccessException {
+    public static void main(String[] args) throws IllegalAccessException, IOException {
+        document();
         methods();
         constants();
         classes();
         CHECK.is("public and final", TradeLine.class.getModifiers(), Modifier.PUBLIC | Modifier.FINAL);
         CHECK.end();
+    }
+
+    /** The lists of this test are those of the document, constants and what they are called included. */
+    private static void document() throws IOException {
+        String text = Files.readString(Path.of("..", "shared", "DOC.md"));
+        int from = text.indexOf("public final class TradeLine {");
+        String face = text.substring(from, text.indexOf("\n}\n", from));
+        List<String> methods = new ArrayList<>();
+        StringBuilder constants = new StringBuilder();
+        for (String line : face.lines().skip(1).map(String::trim).toList()) {
+            Matcher method = METHOD.matcher(line);
+            if (line.startsWith(CONSTANT)) {
+                String row = line.substring(CONSTANT.length()).replace(";", "");
+                CHECK.is("the document tells what is meant by " + row, text.contains("`" + row + "`: "), true);
+                constants.append(' ').append(row.replace(" = ", "=").replace(",", ""));
+            } else if (method.matches()) {
+                String arguments = method.group(3).replaceAll("(\\w+) \\w+(, )?", "$1$2").replace(", ", ",");
+                String thrown = method.group(4) == null ? "" : method.group(4).replace(", ", ",");
+                methods.add(method.group(1) + " " + method.group(2) + "(" + arguments + ") " + thrown);
+            } else {
+                CHECK.same("the face of the document has beside these", line, "public TradeLine();");
+            }
+        }
+        CHECK.same("methods of the document", String.join("\n", methods), String.join("\n", METHODS));
+        CHECK.same("constants of the document", constants.toString().trim(), CONSTANTS);
     }
 
     private static void methods() {
